@@ -30,6 +30,11 @@ public final class ModelTest {
         {"b2c1", "bxx=x", "bbxyz=bxbyz", "cbxy=bcycx"},
         {"a0c1b2", "bxa=x", "bxcy=cbxy", "bbxyz=bxbyz"},
         {"a0c1b2d2", "bxa=x", "bxcy=cbxy", "dxa=a", "dxcy=bdxyx"},
+        // Each variable stands for a term in which the next one comes twice.
+        {"a0b2c2", "cucvcvcwcwcxcxy=u", "cbuucucbvvcvcbwwcwcbxxx=x"},
+        {"a0b2c2", "cucvcvcwcwcxcxy=y", "cbuucucbvvcvcbwwcwcbxxx=a"},
+        {"a0b2d1c2", "dcucvcvcwcwx=x", "dcbuucucbvvcvcbwww=w"},
+        {"a0b2d1c2", "dcucvcvcwcwx=u", "dcbuucucbvvcvcbwww=a"},
     };
 
     private final Random random;
