@@ -215,7 +215,7 @@ public final class RuleCompletion {
             return size == other.size && isSamePart(0, other, 0, size);
         }
 
-        /** Whether so many letters behind the one place are those behind the other; what is not there is not the same. */
+        /** Whether so many letters from the one place on are those from the other place on. */
         boolean isSamePart(int from, Term other, int otherFrom, int length) {
             if (from + length > MOST_LETTERS || otherFrom + length > MOST_LETTERS) {
                 return false;

@@ -193,7 +193,7 @@ public final class PromiseTest {
     private static void equationWrong() {
         RuleCompletion x = Checks.with("a0b1f2");
         String long25 = "b".repeat(24) + "a";
-        String[] texts = {"", "=", "a", "a=", "=a", "a=a=a", "a==a", "b=a", "a=b", "fa=a", "faaa=a", "a=faaa", "aa=a", "a=aa",
+        String[] texts = {"", "=", "a", "a=", "=a", "a=a=a", "a==a", "b=a", "a=b", "fa=a", "faaa=a", "a=faaa", "aa=a", "a=aa", "aaf=a", "a=aaf",
             "c=a", "a=h", "a=t", "t=a", "a={", "A=a", "U=a", "a =a", "a=a ", "a>a", "\u00e1=a", "\u00f5=a", "1=a",
             long25 + "=a", "a=" + long25};
         for (String text : texts) {
@@ -383,6 +383,19 @@ public final class PromiseTest {
         Checks.due("6 six variables", Checks.complete(y, 2), RUNNING);
         // The exchanged pair has other names for its variables before it is renamed.
         Checks.due("6 there exchanged and renamed", Checks.waiting(y), "ffufvwfxfyz=u");
+        RuleCompletion v = Checks.with("c1f2g2h2");
+        Checks.equations(v, "hcxy=fxy", "hxcy=gyx", "fxcy=gycx");
+        v.complete(2);
+        // At the first letter, new on old: h cu cv gives (gvcu, fucv), which is gucv = fvcu.
+        Checks.due("6 rules with one pair", Checks.rules(v), "hcuv>fuv hucv>gvu");
+        Checks.due("6 renamed anew when it is exchanged", Checks.waiting(v), "fucv=gvcu");
+        RuleCompletion w = Checks.with("a0b1c1");
+        Checks.equations(w, "cbbba=a");
+        w.complete(1);
+        Checks.equations(w, "bbx=a");
+        w.complete(1);
+        // What was taken away comes to (ca, a), and before the pair of the new rule on itself.
+        Checks.due("6 kept pairs come first", Checks.rules(w) + "; " + Checks.waiting(w), "bbu>a; ca=a ba=a");
         RuleCompletion z = Checks.with("a0b0c0d0h1");
         Checks.equations(z, "hb=a", "hc=a");
         z.complete(2);
@@ -640,7 +653,7 @@ public final class PromiseTest {
         RuleCompletion x = Checks.with("a0b1f2");
         Checks.equations(x, "bx=x");
         x.complete(1);
-        String[] texts = {"", "b", "fa", "faaa", "aa", "c", "h", "t", "{", "A", "ba=a", "ba ", " ba", "=", "b".repeat(24) + "a",
+        String[] texts = {"", "b", "fa", "faaa", "aa", "aaf", "c", "h", "t", "{", "A", "ba=a", "ba ", " ba", "=", "b".repeat(24) + "a",
             "b".repeat(59) + "a", "\u0080", "\u00f5", "\u00e1"};
         for (String text : texts) {
             Checks.due("12 wrong: " + text, Checks.normalize(x, text), ARGUMENT + " " + text);
@@ -655,6 +668,12 @@ public final class PromiseTest {
         Checks.due("12 forty", Checks.normalize(x, "dddddcccccccca"), "40 ccccccccddddda");
         Checks.due("12 forty-two", Checks.normalize(x, "ddddddccccccca"), UNSUPPORTED + " ddddddccccccca");
         Checks.due("12 the draft can be used again", Checks.of(x::normalize), UNSUPPORTED);
+        RuleCompletion w = Checks.with("a0c1d1h1");
+        Checks.equations(w, "hx=x", "dcx=cdx");
+        w.complete(2);
+        Checks.due("12 forty-one", Checks.normalize(w, "hdddddcccccccca"), UNSUPPORTED + " hdddddcccccccca");
+        Checks.due("12 forty of two rules", Checks.normalize(w, "ddd" + "c".repeat(13) + "ha"),
+                "40 " + "c".repeat(13) + "ddda");
         RuleCompletion y = Checks.with("a0b2c1");
         Checks.equations(y, "cx=bxx");
         y.complete(1);
@@ -714,7 +733,7 @@ public final class PromiseTest {
 
     private static void compareWrong() {
         RuleCompletion x = Checks.with("a0b1f2");
-        String[] texts = {"", "=", "a", "ba", "a=", "=a", "a=a=a", "fa=a", "a=fa", "aa=a", "c=a", "a=t", "a>a", "a=a ",
+        String[] texts = {"", "=", "a", "ba", "a=", "=a", "a=a=a", "fa=a", "a=fa", "aa=a", "aaf=a", "c=a", "a=t", "a>a", "a=a ",
             "b".repeat(24) + "a=a", "a=" + "b".repeat(24) + "a"};
         for (String text : texts) {
             Checks.due("13 wrong: " + text, Checks.compare(x, text), ARGUMENT);
