@@ -2,6 +2,8 @@
 final class Checks {
     private static int wrong = 0;
     private static int made = 0;
+    private static int sentences = 0;
+    private static String sentence = "";
 
     private Checks() {
     }
@@ -14,11 +16,17 @@ final class Checks {
         void run();
     }
 
+    /** The checks from here on are of this sentence of the document, which is told when one is wrong. */
+    static void sentence(String words) {
+        sentences++;
+        sentence = "\"" + words + "\" ";
+    }
+
     static void due(String what, Object got, Object want) {
         made++;
         if (!want.equals(got)) {
             wrong++;
-            System.out.println(what + ": got " + got + ", due is " + want);
+            System.out.println(sentence + what + ": got " + got + ", due is " + want);
         }
     }
 
@@ -41,7 +49,8 @@ final class Checks {
 
     /** Ends the test: with exit code 1 if something was wrong. */
     static void end(String name) {
-        System.out.println(name + ": " + made + " checks, " + wrong + " wrong");
+        String of = sentences > 0 ? " of " + sentences + " sentences" : "";
+        System.out.println(name + ": " + made + " checks" + of + ", " + wrong + " wrong");
         if (wrong > 0 || made == 0) {
             System.exit(1);
         }
@@ -109,7 +118,7 @@ final class Checks {
         return text.toString();
     }
 
-    private static String equationAt(RuleCompletion x, int k) {
+    static String equationAt(RuleCompletion x, int k) {
         StringBuilder text = new StringBuilder();
         for (int i = 0; x.equationAt(k, i) != 0; i++) {
             text.append(x.equationAt(k, i));

@@ -6,6 +6,8 @@ import java.util.TreeMap;
  * Many runs of calls, always the same ones, on the class and on PlainModel side by side: after each
  * call all that can be seen of the one has to be as it is on the other. At the end every cause that
  * the model counts has to have been met, so that no part of the document goes untried by accident.
+ * Looking at all of it takes more than the 512 calls for which the document promises anything; the
+ * class is written to answer on all the same, and the other tests keep to that number.
  */
 public final class ModelTest {
     private static final int RUNS = 6000;

@@ -454,7 +454,7 @@ public final class PromiseTest {
         }
         // The pairs of the rule on itself are (ba, a) and (bba, a): for one of them there is room.
         Checks.due("6 no room for an equation", Checks.complete(x, 20), FULL);
-        Checks.due("6 the first one came", x.waiting() + " " + Checks.waiting(x).endsWith("ca ba=a"), "48 true");
+        Checks.due("6 the first one came", x.waiting() + " " + Checks.equationAt(x, 47), "48 ba=a");
         Checks.due("6 the rule stays", Checks.rules(x) + " " + x.steps(), "bbbu>a 1");
     }
 
@@ -719,8 +719,8 @@ public final class PromiseTest {
         };
         for (String[] row : due) {
             Checks.due("13 " + row[0], Checks.compare(x, row[0]).toString(), row[1]);
-            Checks.due("13 the draft stays", Checks.draft(x), row[0]);
         }
+        Checks.due("13 the draft stays", Checks.draft(x), due[due.length - 1][0]);
         Checks.due("13 nothing else changes", x.waiting() + " " + x.rules(), "0 0");
         String left = "g".repeat(23);
         Checks.due("13 24 letters", Checks.compare(x, left + "a=" + left + "b"), -1);
