@@ -288,6 +288,9 @@ public final class StepEdgeTest {
         due("the whole left side", "a0g1h1", texts("hga=a", "hx=x"), "RUNNING 2: hu>u; ga=a");
         due("a subterm in the middle", "a0g1h1", texts("ghga=a", "hx=x"), "RUNNING 2: hu>u; gga=a");
         due("the last letter", "a0b0c0g1", texts("ggc=a", "c=b"), "RUNNING 2: c>b; ggb=a");
+        String most = "g".repeat(23);
+        due("the last of 24 letters", "a0b0c0g1", texts(most + "c=a", "c=b"), "RUNNING 2: c>b; " + most + "b=a");
+        due("none of 24 letters", "a0b0c0g1", texts(most + "b=a", "c=b"), "DONE 2: " + most + "b>a c>b; ");
         due("no subterm", "a0b0c0g1", texts("ggb=a", "c=b"), "DONE 2: ggb>a c>b; ");
         due("of the right side alone", "a0b0c0g1", texts("gga=c", "c=b"), "DONE 2: gga>b c>b; ");
         due("the same for the same variables, and others", "a0b0c0f2", texts("fbb=a", "fbc=a", "fxx=x"),
@@ -348,6 +351,11 @@ public final class StepEdgeTest {
         due("two letters", "a0b0g1f2", texts("fgxgy=a", "ga=b"), "RUNNING 2: fgugv>a ga>b; fbgu=a fgub=a");
         due("the last letter", "a0b0c0g1", texts("gggc=a", "c=b"), "RUNNING 2: c>b; gggb=a");
         due("no letter but variables", "a0b0g1f2", texts("fxy=a", "ga=b"), "DONE 2: fuv>a ga>b; ");
+        String most = "h".repeat(22);
+        due("the last but one of 24 letters", "a0b0g1h1", texts(most + "gx=a", "ga=b"),
+                "RUNNING 2: " + most + "gu>a ga>b; " + most + "b=a");
+        due("24 letters of the other rule", "c0a0b1h1", texts("hbx=x", "b".repeat(23) + "a=c"),
+                "RUNNING 2: hbu>u " + "b".repeat(23) + "a>c; hc=" + "b".repeat(22) + "a");
     }
 
     private static void pairsAtFirstLetter() {
@@ -375,6 +383,12 @@ public final class StepEdgeTest {
         due("the same variable for terms that can't be", "a0b0g1f2h1", texts("hfgxx=b", "fxx=x"), "DONE 2: hfguu>b fuu>u; ");
         due("two variables that are the same twice", "a0b0f2h1", texts("hffxxy=b", "ffxxa=x"),
                 "RUNNING 2: hffuuv>b ffuua>u; hu=b");
+        // At letter 1 the second terms differ, and so would the first ones; at letter 4 both fit.
+        due("what did not fit before does not matter", "a0b0c0f2h2", texts("hfccfxb=a", "fab=a"),
+                "RUNNING 2: hfccfub>a fab>a; hfcca=a");
+        // At letter 1, v = ga for the one and v = gU for the other, so U = a. At letter 5, v = fVfVgga.
+        due("terms of both for the same variables", "a0b0g1f2h1", texts("hfxfyfgay=b", "fxfyfygx=x"),
+                "RUNNING 2: hfufvfgav>b fufvfvgu>u; ha=b hfuffvfvggaga=b");
         // At letter 1, fuu by ffUUV: u = fUU and u = V. By ffUUU, u = fUU and u = U: no term is so.
         due("a variable for a longer term", "b0a0f2", texts("ffxxy=a"), "RUNNING 1: ffuuv>a; fau=a");
         due("a variable for a term in which it comes", "b0a0f2", texts("ffxxx=b"), "DONE 1: ffuuu>b; ");
